@@ -1,5 +1,3 @@
-import java.util.Arrays;
-
 /** Empty boxes of the world: where they are, who pays for them, and which of them serve bookings. */
 public final class BoxPool {
     public static final int NONE = -1;
@@ -22,6 +20,7 @@ public final class BoxPool {
     private static final int MOST_QUOTA = 9;
     private static final int LARGEST_DAMAGE = 20;
     private static final int MOST_MONEY = 9999;
+    private static final int DEARER_THAN_ANY_PLAN = MOST_UNITS * MOST_MONEY + 1;
     private static final int LAST_DAY = 9999;
     private static final int LONGEST_SPAN = 400;
     private static final int MONTH = 30;
@@ -51,9 +50,13 @@ public final class BoxPool {
             }
         }
         for (int lessor = 0; lessor < LESSORS; lessor++) {
-            Arrays.fill(quotas[lessor], QUOTA_AT_FIRST);
+            for (int port = 0; port < PORTS; port++) {
+                quotas[lessor][port] = QUOTA_AT_FIRST;
+            }
         }
-        Arrays.fill(standards, STANDARD_AT_FIRST);
+        for (int code = 0; code < CODES; code++) {
+            standards[code] = STANDARD_AT_FIRST;
+        }
     }
 
     // ---- ports and boxes
@@ -746,7 +749,7 @@ public final class BoxPool {
                 return;
             }
             findLeastFrom(costs);
-            leastCost = Integer.MAX_VALUE;
+            leastCost = DEARER_THAN_ANY_PLAN;
             // Each box can be brought to each unit, so just the units beyond the boxes go without.
             tryUnit(this, costs, 0, 0, Math.max(0, units - over));
         }

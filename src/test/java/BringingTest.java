@@ -8,6 +8,7 @@ public final class BringingTest {
         asManyAsCanBe();
         lowestBoxes();
         lowestAmongEqualPlans();
+        afterGreaterPlans();
         unitsByPorts();
         whatIsOver();
         whatLacks();
@@ -95,6 +96,17 @@ public final class BringingTest {
         short2.book(4, 1, 1);
         short2.cost(0, 3, 99);
         CHECK.same("the middle one is cheapest, then the first", "199: 0 1 -1", planOf(short2, 3));
+    }
+
+    private static void afterGreaterPlans() {
+        BoxPool pool = poolAt(0, 1, 1);
+        pool.cost(0, 3, 50);
+        pool.cost(1, 3, 20);
+        pool.book(3, 1, 1);
+        pool.book(4, 1, 2);
+        CHECK.same("three units", "220: 1 0 2", planOf(pool, 3));
+        pool.end(1);
+        CHECK.same("one unit then", "20: 1 -1 -1", planOf(pool, 3));
     }
 
     private static void unitsByPorts() {

@@ -250,6 +250,21 @@ public final class LeasesTest {
         CHECK.same("the second was", LINE, pool.payer(0, 8));
         pool.pass(1);
         CHECK.same("not on lease tomorrow", 0, pool.boxIs(0, 7));
+        tenLeasesEnd();
+    }
+
+    private static void tenLeasesEnd() {
+        BoxPool pool = new BoxPool();
+        pool.box(0, 0, 9999);
+        pool.report(0, 0, IN, 1);
+        for (int i = 0; i < 10; i++) {
+            pool.lease(0, i, 100);
+        }
+        pool.pass(20);
+        CHECK.same("handed in with ten leases", 1, pool.handIn(0));
+        CHECK.same("the first was", LINE, pool.payer(0, 0));
+        CHECK.same("all were", LINE, pool.payer(0, 20));
+        CHECK.same("all ended", OWNER, pool.payer(0, 21));
     }
 
     private static void handInsRefused() {
