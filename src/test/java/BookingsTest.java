@@ -10,7 +10,12 @@ public final class BookingsTest {
         servesUpwards();
         servesWhoCan();
         servesAgain();
+        servesEachKind();
+        servesNine();
+        servesOnTheLastDayOfTheCertificate();
+        twentyBookings();
         ends();
+        overIsOver();
         endsRefused();
         boxIs();
         boxIsRefused();
@@ -137,6 +142,104 @@ public final class BookingsTest {
         pool.book(3, 0, 2);
         CHECK.same("what is left", 1, pool.serve());
         CHECK.same("one booking each", "0 1 ", bookingsOf(pool, 2));
+    }
+
+    /** "And is of the kind, or a greater one", "of its own kind first, then of the next one". */
+    private static void servesEachKind() {
+        for (int kind = 0; kind < 3; kind++) {
+            for (int booked = 0; booked < 3; booked++) {
+                BoxPool pool = poolOf(kind);
+                pool.book(3, booked, 1);
+                CHECK.same("kind " + kind + " for " + booked, kind >= booked ? 1 : 0, pool.serve());
+            }
+        }
+        BoxPool pool = poolOf(2, 2, 1, 1, 0, 0);
+        for (int i = 0; i < 6; i++) {
+            pool.book(3, 0, 1);
+        }
+        CHECK.same("all are served", 6, pool.serve());
+        CHECK.same("0, then 1, then 2, of each the lower first", "4 5 2 3 0 1 ", bookingsOf(pool, 6));
+    }
+
+    /** "boxes: 1 to 9": nine are given where there are ten, and what is lacking is made up later. */
+    private static void servesNine() {
+        BoxPool pool = poolOf(0, 0, 0, 0, 0, 0, 0, 0);
+        pool.book(3, 0, 9);
+        CHECK.same("eight of nine", 8, pool.serve());
+        CHECK.same("one lacks", 1, pool.lacks(0));
+        for (int box = 8; box < 10; box++) {
+            pool.box(0, -1, 100);
+            pool.report(box, 0, IN, 3);
+        }
+        CHECK.same("the ninth", 1, pool.serve());
+        CHECK.same("not the tenth", "0 0 0 0 0 0 0 0 0 -1 ", bookingsOf(pool, 10));
+        CHECK.same("none lacks", 0, pool.lacks(0));
+        CHECK.same("no more", 0, pool.serve());
+        CHECK.same("it had nine", 9, pool.end(0));
+    }
+
+    /** "Certified today": on the last day of its certificate still; "at that port today": not yesterday. */
+    private static void servesOnTheLastDayOfTheCertificate() {
+        for (int until = 9; until <= 11; until++) {
+            BoxPool pool = new BoxPool();
+            pool.box(0, -1, until);
+            pool.box(0, -1, 0);
+            pool.report(0, 0, IN, 3);
+            pool.report(1, 0, IN, 3);
+            pool.pass(10);
+            pool.wash(1, until);
+            pool.book(3, 0, 2);
+            CHECK.same("certified up to " + until, until >= 10 ? 2 : 0, pool.serve());
+        }
+        BoxPool pool = poolOf(0, 0);
+        pool.pass(1);
+        pool.report(0, 1, OUT, 3);
+        pool.book(3, 0, 2);
+        CHECK.same("one left today", 1, pool.serve());
+        CHECK.same("the other one is given", "-1 0 ", bookingsOf(pool, 2));
+    }
+
+    /** "If there are 20", those that are over with them; the last one is served as the first. */
+    private static void twentyBookings() {
+        BoxPool pool = poolOf(0, 0);
+        for (int i = 0; i < 20; i++) {
+            pool.book(i == 19 ? 3 : 2, 0, 2);
+        }
+        CHECK.same("served", 2, pool.serve());
+        CHECK.same("the last one", "19 19 ", bookingsOf(pool, 2));
+        CHECK.same("lacks nothing", 0, pool.lacks(19));
+        CHECK.same("the one ahead lacks two", 2, pool.lacks(18));
+        CHECK.same("it had two", 2, pool.end(19));
+        for (int i = 0; i < 19; i++) {
+            CHECK.same("it had none", 0, pool.end(i));
+        }
+        CHECK.thrown("the next one, though all are over", IllegalStateException.class, pool, p -> p.book(0, 0, 1));
+        CHECK.thrown("lacks of it", IndexOutOfBoundsException.class, pool, p -> p.lacks(20));
+        CHECK.thrown("end of it", IndexOutOfBoundsException.class, pool, p -> p.end(20));
+    }
+
+    /** "A box is given, till the booking is over; then it is dirty", wherever it is by then, and whatever was told of it. */
+    private static void overIsOver() {
+        BoxPool pool = poolOf(0, 0, 0);
+        pool.book(3, 0, 2);
+        pool.serve();
+        pool.report(0, 0, OUT, 3);
+        pool.damage(1, 0, 9);
+        pool.pass(200);
+        CHECK.same("given still", "0 0 -1 ", bookingsOf(pool, 3));
+        CHECK.same("not dirty ahead of it", 0, pool.boxIs(0, 3) + pool.boxIs(1, 3));
+        CHECK.same("it had two, one off and one damaged", 2, pool.end(0));
+        CHECK.same("given no more", "-1 -1 -1 ", bookingsOf(pool, 3));
+        CHECK.same("both are dirty", 2, pool.boxIs(0, 3) + pool.boxIs(1, 3));
+        CHECK.same("what was not given is not", 0, pool.boxIs(2, 3));
+        CHECK.thrown("over", IllegalStateException.class, pool, p -> p.end(0));
+        CHECK.same("over lacks nothing", 0, pool.lacks(0));
+        pool.book(3, 0, 3);
+        pool.wash(0, 300);
+        pool.wash(1, 300);
+        pool.wash(2, 300);
+        CHECK.same("the washed one that is sound and there", 1, pool.serve());
+        CHECK.same("given to the new one", "-1 -1 1 ", bookingsOf(pool, 3));
     }
 
     private static void ends() {

@@ -12,6 +12,13 @@ public final class BringingTest {
         unitsByPorts();
         whatIsOver();
         whatLacks();
+        whereNothingLacksAnyMore();
+        fewerBoxesThanUnits();
+        noneAboveAll();
+        dearestPlan();
+        freePlans();
+        fiveUnits();
+        lastBoxes();
         manyUnits();
         bringRefused();
         CHECK.finish();
@@ -167,6 +174,132 @@ public final class BringingTest {
         CHECK.same("of kind 2 nothing lacks", 0, pool.bring(2));
         pool.end(0);
         CHECK.same("over", "0: -1", planOf(pool, 1));
+    }
+
+    /** "At ports where nothing of it lacks": where it was served, or over, boxes are over again. */
+    private static void whereNothingLacksAnyMore() {
+        BoxPool pool = poolAt(0, 0, 0);
+        pool.book(0, 1, 2);
+        pool.book(3, 1, 1);
+        CHECK.same("it lacks there: nothing is over", "0: -1 -1 -1 -1", planOf(pool, 4));
+        pool.serve();
+        CHECK.same("it was served: what is left is over", "100: 2 -1", planOf(pool, 2));
+        pool.book(0, 1, 1);
+        CHECK.same("it lacks there again", "0: -1 -1", planOf(pool, 2));
+        pool.end(2);
+        CHECK.same("it is over", "100: 2 -1", planOf(pool, 2));
+        pool.book(0, 0, 1);
+        pool.book(0, 2, 1);
+        CHECK.same("of other kinds it lacks there", "100: 2 -1", planOf(pool, 2));
+        CHECK.same("of kind 0 none is over", 0, pool.bring(0));
+        CHECK.same("of kind 2 none is over", -1, pool.brings(2, 0));
+    }
+
+    /** "As many as can be": each number of boxes for each number of units, all at one cost. */
+    private static void fewerBoxesThanUnits() {
+        for (int boxes = 0; boxes <= 6; boxes++) {
+            for (int units = 0; units <= 5; units++) {
+                BoxPool pool = poolAt(new int[boxes]);
+                for (int unit = 0; unit < units; unit++) {
+                    pool.book(1 + unit, 1, 1);
+                }
+                int brought = Math.min(boxes, units);
+                StringBuilder due = new StringBuilder().append(100 * brought).append(':');
+                for (int unit = 0; unit < 7; unit++) {
+                    due.append(' ').append(unit < brought ? unit : -1);
+                }
+                CHECK.same(boxes + " boxes, " + units + " units", due.toString(), planOf(pool, 7));
+            }
+        }
+    }
+
+    /** "That in which the first unit has the lowest box, none being above all, then the next one, and so on". */
+    private static void noneAboveAll() {
+        BoxPool pool = poolAt(0, 1);
+        pool.book(2, 1, 1);
+        pool.book(3, 1, 1);
+        pool.book(4, 1, 1);
+        pool.cost(0, 2, 10);
+        pool.cost(0, 3, 10);
+        pool.cost(0, 4, 10);
+        pool.cost(1, 2, 20);
+        pool.cost(1, 3, 20);
+        pool.cost(1, 4, 20);
+        CHECK.same("six plans of 30: the first has the lowest, the last has none", "30: 0 1 -1", planOf(pool, 3));
+        pool.cost(1, 3, 21);
+        CHECK.same("rather none for the second than a higher one for the first", "30: 0 -1 1", planOf(pool, 3));
+        pool.cost(1, 4, 21);
+        CHECK.same("rather a higher one for the first than none for it", "30: 1 0 -1", planOf(pool, 3));
+        pool.cost(0, 3, 11);
+        CHECK.same("the second has none", "30: 1 -1 0", planOf(pool, 3));
+        pool.cost(0, 4, 11);
+        CHECK.same("four plans of 31", "31: 0 1 -1", planOf(pool, 3));
+    }
+
+    /** Costs go "0 to 9999": the dearest plan of all is a plan still. */
+    private static void dearestPlan() {
+        BoxPool pool = poolAt(0, 0, 0, 0, 0);
+        for (int to = 1; to < 6; to++) {
+            pool.cost(0, to, 9999);
+            pool.book(to, 1, 1);
+        }
+        CHECK.same("five units at 9999", "49995: 0 1 2 3 4", planOf(pool, 5));
+        pool.cost(0, 1, 9998);
+        CHECK.same("one of them at 9998", "49994: 0 1 2 3 4", planOf(pool, 5));
+    }
+
+    /** Costs go "0 to 9999": what costs nothing is brought all the same, as many as can be. */
+    private static void freePlans() {
+        BoxPool pool = poolAt(0, 1, 0);
+        for (int to = 2; to < 6; to++) {
+            pool.cost(0, to, 0);
+            pool.cost(1, to, 0);
+            pool.book(to, 1, 1);
+        }
+        CHECK.same("three boxes for four units, all for nothing", "0: 0 1 2 -1", planOf(pool, 4));
+        pool.cost(0, 2, 1);
+        CHECK.same("box 1 for the first unit", "0: 1 0 2 -1", planOf(pool, 4));
+        pool.cost(1, 2, 1);
+        CHECK.same("the first unit goes without", "0: -1 0 1 2", planOf(pool, 4));
+        pool.end(3);
+        CHECK.same("as many as can be, though it costs", "1: 0 1 2 -1", planOf(pool, 4));
+    }
+
+    /** "At most 5 units may lack for that", of one booking or of five, and of that kind alone. */
+    private static void fiveUnits() {
+        for (int kind = 0; kind < 3; kind++) {
+            BoxPool pool = new BoxPool();
+            for (int box = 0; box < 4; box++) {
+                pool.box(kind, -1, 100);
+                pool.report(box, 0, IN, 5);
+            }
+            pool.book(5, kind, 9);
+            pool.book(0, (kind + 1) % 3, 9);
+            int asked = kind;
+            CHECK.thrown("nine units", IllegalStateException.class, pool, p -> p.bring(asked));
+            CHECK.thrown("nine units of the other", IllegalStateException.class, pool, p -> p.bring((asked + 1) % 3));
+            CHECK.same("none of the third", 0, pool.bring((kind + 2) % 3));
+            CHECK.same("four are given", 4, pool.serve());
+            CHECK.same("five lack then", 0, pool.bring(kind));
+            CHECK.same("for none of them", -1, pool.brings(kind, 4));
+            pool.book(1, kind, 1);
+            CHECK.thrown("six at two ports", IllegalStateException.class, pool, p -> p.brings(asked, 0));
+            pool.end(2);
+            CHECK.same("five again", 0, pool.bring(kind));
+        }
+    }
+
+    /** Boxes up to number 39 are over, and the lowest ones of each port go first. */
+    private static void lastBoxes() {
+        int[] ports = new int[40];
+        ports[38] = 1;
+        ports[39] = 1;
+        BoxPool pool = poolAt(ports);
+        pool.book(2, 1, 3);
+        pool.cost(1, 2, 99);
+        CHECK.same("38 and 39 are cheaper by one", "298: 0 38 39", planOf(pool, 3));
+        pool.cost(0, 2, 98);
+        CHECK.same("0 to 2 are", "294: 0 1 2", planOf(pool, 3));
     }
 
     private static void manyUnits() {

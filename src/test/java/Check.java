@@ -4,6 +4,8 @@ final class Check {
         void on(BoxPool pool);
     }
 
+    private static final Probe[] PROBES = Probe.values();
+
     private final String name;
     private int made = 0;
     private int wrong = 0;
@@ -43,14 +45,25 @@ final class Check {
         }
     }
 
-    /** The call throws, and the object answers as one on which it was never made. */
+    void taken(String what, BoxPool pool, Use call) {
+        made++;
+        try {
+            call.on(pool);
+        } catch (RuntimeException e) {
+            tell(what + " threw " + e.getClass().getSimpleName() + ", due is an answer");
+        }
+    }
+
+    /** The call throws, and an object answers, whatever it is asked, as one on which the call was never made. */
     void refused(String what, Class<? extends RuntimeException> due, Use ahead, Use call) {
-        BoxPool touched = new BoxPool();
-        ahead.on(touched);
-        thrown(what, due, touched, call);
-        BoxPool untouched = new BoxPool();
-        ahead.on(untouched);
-        same(what + " and what is asked then", Snapshot.of(untouched), Snapshot.of(touched));
+        for (Probe probe : PROBES) {
+            BoxPool touched = new BoxPool();
+            ahead.on(touched);
+            thrown(what, due, touched, call);
+            BoxPool untouched = new BoxPool();
+            ahead.on(untouched);
+            same(what + ", then " + probe, probe.of(untouched), probe.of(touched));
+        }
     }
 
     void noSuch(String what, Use ahead, Use call) {

@@ -5,9 +5,13 @@ public final class DamagesTest {
     public static void main(String[] args) {
         damages();
         damagesRefused();
+        twelveDamages();
         standards();
+        wearToTheEnd();
         limits();
+        limitsToTheEnd();
         mends();
+        wearIsGoneWithMends();
         mendsRefused();
         CHECK.finish();
     }
@@ -65,6 +69,28 @@ public final class DamagesTest {
         CHECK.thrown("damage 13 again", IllegalStateException.class, pool, p -> p.damage(0, 0, 1));
     }
 
+    /** "Or has 12": wear with them, and the dearest twelve cost 12000 together. */
+    private static void twelveDamages() {
+        BoxPool pool = new BoxPool();
+        pool.box(0, -1, 0);
+        pool.box(0, -1, 0);
+        for (int i = 1; i <= 12; i++) {
+            CHECK.same("damage " + i, 1000 * i, pool.damage(0, 4, 20));
+            CHECK.same("wear " + i, 0, pool.damage(1, i % 5, 3));
+        }
+        CHECK.thrown("damage 13", IllegalStateException.class, pool, p -> p.damage(0, 0, 1));
+        CHECK.thrown("wear 13", IllegalStateException.class, pool, p -> p.damage(1, 0, 3));
+        CHECK.same("what all twelve cost", 12000, pool.boxIs(0, 5));
+        pool.standard(2, 2);
+        CHECK.same("three of code 2 are no wear then", 3 * 90, pool.boxIs(1, 5));
+        pool.mend(1);
+        CHECK.same("mended: wear that stayed told is no more", 0, pool.boxIs(1, 5));
+        for (int i = 1; i <= 12; i++) {
+            CHECK.same("damage again " + i, 40 * i, pool.damage(1, 0, 4));
+        }
+        CHECK.thrown("damage 13 again", IllegalStateException.class, pool, p -> p.damage(1, 0, 4));
+    }
+
     private static void standards() {
         BoxPool pool = new BoxPool();
         pool.box(0, -1, 0);
@@ -89,6 +115,27 @@ public final class DamagesTest {
         CHECK.outOfRange("standard -1", ahead, p -> p.standard(0, -1));
     }
 
+    /** "A damage that is not greater than that, by the standard as it is, is wear": each size under each standard. */
+    private static void wearToTheEnd() {
+        for (int code = 0; code < 5; code++) {
+            for (int standard = 0; standard <= 20; standard++) {
+                BoxPool pool = new BoxPool();
+                pool.standard(code, standard);
+                for (int size = 1; size <= 20; size++) {
+                    int cost = size > standard ? size * (code + 1) * 10 : 0;
+                    int box = pool.box(0, -1, 0);
+                    CHECK.same("code " + code + ", standard " + standard + ", size " + size, cost,
+                        pool.damage(box, code, size));
+                }
+                pool.standard(code, 20);
+                CHECK.same("all is wear", 0, pool.boxIs(19, 5));
+                pool.standard(code, 0);
+                CHECK.same("all counts", 200 * (code + 1), pool.boxIs(19, 5));
+                CHECK.same("the least counts", 10 * (code + 1), pool.boxIs(0, 5));
+            }
+        }
+    }
+
     private static void limits() {
         BoxPool pool = new BoxPool();
         CHECK.same("limit at first", 500, pool.limit(0));
@@ -97,6 +144,35 @@ public final class DamagesTest {
         Check.Use ahead = p -> p.limit(7);
         CHECK.outOfRange("limit -1", ahead, p -> p.limit(-1));
         CHECK.outOfRange("limit 10000", ahead, p -> p.limit(10000));
+    }
+
+    /** "Cost more than the limit, together": wear does not, and what costs as much as the limit is mended. */
+    private static void limitsToTheEnd() {
+        BoxPool pool = new BoxPool();
+        pool.box(0, -1, 0);
+        pool.damage(0, 4, 3);
+        pool.damage(0, 0, 4);
+        pool.damage(0, 1, 4);
+        pool.limit(0);
+        CHECK.thrown("limit 0", IllegalStateException.class, pool, p -> p.mend(0));
+        pool.limit(119);
+        CHECK.thrown("limit 119", IllegalStateException.class, pool, p -> p.mend(0));
+        pool.limit(120);
+        CHECK.same("limit 120", 120, pool.mend(0));
+        pool.limit(9999);
+        for (int i = 0; i < 9; i++) {
+            pool.damage(0, 4, 20);
+        }
+        pool.damage(0, 0, 20);
+        pool.damage(0, 3, 20);
+        CHECK.thrown("limit 9999, and 10000", IllegalStateException.class, pool, p -> p.mend(0));
+        pool.standard(0, 20);
+        CHECK.same("the limit counts no wear", 9800, pool.mend(0));
+        pool.damage(0, 1, 4);
+        pool.limit(79);
+        CHECK.thrown("limit 79", IllegalStateException.class, pool, p -> p.mend(0));
+        pool.limit(80);
+        CHECK.same("limit 80", 80, pool.mend(0));
     }
 
     private static void mends() {
@@ -115,6 +191,23 @@ public final class DamagesTest {
         pool.damage(0, 0, 1);
         CHECK.same("a given one is mended too", 10, pool.mend(0));
         CHECK.same("and stays given", 0, pool.boxIs(0, 4));
+    }
+
+    /** "A mended box has no damages, wear neither"; one that has no more than wear is not mended. */
+    private static void wearIsGoneWithMends() {
+        BoxPool pool = new BoxPool();
+        pool.box(0, -1, 0);
+        for (int i = 0; i < 11; i++) {
+            pool.damage(0, 0, 3);
+        }
+        CHECK.thrown("wear alone", IllegalStateException.class, pool, p -> p.mend(0));
+        CHECK.same("one more that counts", 40, pool.damage(0, 0, 4));
+        CHECK.same("costs alone", 40, pool.mend(0));
+        CHECK.thrown("mended twice", IllegalStateException.class, pool, p -> p.mend(0));
+        pool.standard(0, 0);
+        CHECK.same("no wear is left to cost", 0, pool.boxIs(0, 5));
+        CHECK.thrown("nor to mend", IllegalStateException.class, pool, p -> p.mend(0));
+        CHECK.same("what is told then is all", 10, pool.damage(0, 0, 1));
     }
 
     private static void mendsRefused() {

@@ -7,15 +7,22 @@ public final class LeasesTest {
     public static void main(String[] args) {
         leases();
         leasesInPlaceOfOthers();
+        leasesWheneverTheyEnd();
+        tenLeases();
         leasesRefused();
         frees();
         payers();
         payersFromDayZero();
+        payersOffTheRoad();
         payersRefused();
         quotas();
         handIns();
         handInsOfAMonth();
         handInEndsLeases();
+        handInEndsOneLease();
+        handInOnTheEdgesOfALease();
+        quotasToTheEnd();
+        goneIsGone();
         handInsRefused();
         CHECK.finish();
     }
@@ -59,6 +66,53 @@ public final class LeasesTest {
         CHECK.same("not of those ahead", LINE, pool.payer(0, 1));
         pool.lease(0, 2, 8);
         CHECK.same("of the same first day the later", LINE, pool.payer(0, 8));
+    }
+
+    /** "From its own first day on, whenever it ends": the later one ends ahead of, with, and behind the one before. */
+    private static void leasesWheneverTheyEnd() {
+        for (int last = 9; last <= 11; last++) {
+            for (int first = 4; first <= 12; first++) {
+                if (first <= last) {
+                    BoxPool pool = new BoxPool();
+                    pool.box(0, 0, 0);
+                    pool.lease(0, 5, 10);
+                    pool.lease(0, first, last);
+                    for (int day = 3; day <= 13; day++) {
+                        boolean leased = day < first ? day >= 5 && day <= 10 : day <= last;
+                        CHECK.same("from " + first + " to " + last + ", day " + day, leased ? LINE : OWNER,
+                            pool.payer(0, day));
+                    }
+                }
+            }
+        }
+        BoxPool pool = new BoxPool();
+        pool.box(0, 0, 0);
+        pool.lease(0, 0, 9999);
+        pool.lease(0, 9999, 9999);
+        pool.lease(0, 0, 0);
+        CHECK.same("a lease of the first day alone", LINE, pool.payer(0, 0));
+        CHECK.same("is in place of all on the day behind it", OWNER, pool.payer(0, 1));
+        CHECK.same("and on the last day", OWNER, pool.payer(0, 9999));
+    }
+
+    /** "Or has had 10": those that ended, and those in whose place others are, with them. */
+    private static void tenLeases() {
+        BoxPool pool = new BoxPool();
+        pool.box(0, 0, 0);
+        pool.box(0, 0, 0);
+        for (int i = 0; i < 9; i++) {
+            pool.lease(0, 7, 8);
+        }
+        pool.pass(20);
+        CHECK.same("nine that ended", 0, pool.boxIs(0, 7));
+        pool.lease(0, 20, 20);
+        CHECK.same("the tenth", 1, pool.boxIs(0, 7));
+        CHECK.thrown("the eleventh", IllegalStateException.class, pool, p -> p.lease(0, 20, 30));
+        CHECK.same("is not told", OWNER, pool.payer(0, 21));
+        pool.pass(20);
+        CHECK.thrown("the eleventh when all ended", IllegalStateException.class, pool, p -> p.lease(0, 40, 50));
+        pool.lease(1, 40, 50);
+        CHECK.same("another box has room", 1, pool.boxIs(1, 7));
     }
 
     private static void leasesRefused() {
@@ -150,6 +204,35 @@ public final class LeasesTest {
         CHECK.same("the last day", CUSTOMER, pool.payer(0, 9999));
         pool.free(0);
         CHECK.same("day 0, none free", CUSTOMER, pool.payer(0, 0));
+    }
+
+    /** "If it is ROAD on it, and was on each of as many days ahead": no other place will do, nor one day off it. */
+    private static void payersOffTheRoad() {
+        BoxPool pool = new BoxPool();
+        pool.box(0, 0, 0);
+        pool.pass(100);
+        pool.report(0, 10, IN, 3);
+        pool.report(0, 20, OUT, 3);
+        pool.report(0, 30, IN, 3);
+        pool.report(0, 40, LOAD, 3);
+        pool.lease(0, 21, 27);
+        for (int free = 0; free <= 30; free++) {
+            pool.free(free);
+            for (int day = 15; day <= 50; day++) {
+                boolean customer = day >= 20 + free && day < 30;
+                int due = customer ? CUSTOMER : day >= 21 && day <= 27 ? LINE : OWNER;
+                CHECK.same("free " + free + ", day " + day, due, pool.payer(0, day));
+            }
+        }
+        pool.free(0);
+        CHECK.same("nowhere, none free", OWNER, pool.payer(0, 9));
+        pool.free(3);
+        pool.report(0, 25, IN, 3);
+        pool.report(0, 26, OUT, 3);
+        CHECK.same("the day ahead of the one off the road", CUSTOMER, pool.payer(0, 24));
+        CHECK.same("the day off the road", LINE, pool.payer(0, 25));
+        CHECK.same("three days behind", OWNER, pool.payer(0, 28));
+        CHECK.same("four days behind", CUSTOMER, pool.payer(0, 29));
     }
 
     private static void payersRefused() {
@@ -251,6 +334,92 @@ public final class LeasesTest {
         pool.pass(1);
         CHECK.same("not on lease tomorrow", 0, pool.boxIs(0, 7));
         tenLeasesEnd();
+    }
+
+    /** "All its leases end today": the one that there is with them, on today still. */
+    private static void handInEndsOneLease() {
+        BoxPool pool = new BoxPool();
+        pool.box(0, 0, 9999);
+        pool.report(0, 0, IN, 0);
+        pool.lease(0, 0, 9999);
+        CHECK.same("handed in on day 0 at port 0", 1, pool.handIn(0));
+        CHECK.same("today", LINE, pool.payer(0, 0));
+        CHECK.same("today as told", 1, pool.boxIs(0, 7));
+        CHECK.same("tomorrow", OWNER, pool.payer(0, 1));
+        CHECK.same("the last day", OWNER, pool.payer(0, 9999));
+    }
+
+    /** "From a day to another one, both with it": on both it can be handed in, also where another one ends. */
+    private static void handInOnTheEdgesOfALease() {
+        for (int day = 3; day <= 8; day++) {
+            BoxPool pool = new BoxPool();
+            pool.box(0, 0, 9999);
+            pool.report(0, 0, IN, 5);
+            pool.lease(0, 4, 9999);
+            pool.lease(0, 7, 7);
+            pool.pass(day);
+            CHECK.same("on lease on day " + day, day >= 4 && day <= 7, pool.boxIs(0, 7) == 1);
+            if (day >= 4 && day <= 7) {
+                CHECK.same("handed in on day " + day, 1, pool.handIn(0));
+                CHECK.same("its payer on day 7 then", day == 7 ? LINE : OWNER, pool.payer(0, 7));
+            } else {
+                CHECK.thrown("handed in on day " + day, IllegalStateException.class, pool, p -> p.handIn(0));
+            }
+        }
+    }
+
+    /** "If fewer boxes of its lessor were handed in there in this month than the quota", from 0 to 9. */
+    private static void quotasToTheEnd() {
+        for (int quota = 0; quota <= 9; quota++) {
+            BoxPool pool = poolOfLeased(11);
+            pool.quota(1, 4, quota);
+            for (int box = 0; box < quota; box++) {
+                CHECK.same("quota " + quota + ", box " + box, quota - box - 1, pool.handIn(box));
+            }
+            int next = quota;
+            CHECK.thrown("beyond " + quota, IllegalStateException.class, pool, p -> p.handIn(next));
+            pool.quota(2, 4, 1);
+            CHECK.same("of another lessor", 0, pool.handIn(11));
+            pool.quota(1, 5, 1);
+            CHECK.same("at another port", 0, pool.handIn(12));
+            pool.pass(30);
+            if (quota > 0) {
+                CHECK.same("in the next month", quota - 1, pool.handIn(next));
+            } else {
+                CHECK.thrown("none in the next month", IllegalStateException.class, pool, p -> p.handIn(next));
+            }
+        }
+    }
+
+    /** "GONE: no reports, damages, or bookings are told of it any more; its life, and the damages that it has, stay." */
+    private static void goneIsGone() {
+        BoxPool pool = poolOfLeased(3);
+        pool.damage(0, 2, 4);
+        pool.damage(1, 2, 3);
+        pool.handIn(0);
+        pool.handIn(1);
+        for (int box = 0; box < 2; box++) {
+            int gone = box;
+            CHECK.thrown("report", IllegalStateException.class, pool, p -> p.report(gone, 0, OUT, 4));
+            CHECK.thrown("damage", IllegalStateException.class, pool, p -> p.damage(gone, 0, 9));
+            CHECK.thrown("mend", IllegalStateException.class, pool, p -> p.mend(gone));
+            CHECK.thrown("wash", IllegalStateException.class, pool, p -> p.wash(gone, 9));
+            CHECK.thrown("lease", IllegalStateException.class, pool, p -> p.lease(gone, 0, 9));
+            CHECK.thrown("handIn", IllegalStateException.class, pool, p -> p.handIn(gone));
+            CHECK.same("its life", 4, pool.place(box, 0));
+            CHECK.same("its days", 401, pool.days(box, 0, 400, 4));
+            CHECK.same("GONE", 1, pool.boxIs(box, 2));
+        }
+        CHECK.same("its damage", 120, pool.boxIs(0, 5));
+        pool.standard(2, 2);
+        CHECK.same("its wear, by another standard", 90, pool.boxIs(1, 5));
+        pool.standard(2, 20);
+        pool.book(4, 0, 9);
+        CHECK.same("neither serves, though sound", 2, pool.serve());
+        CHECK.same("not given", -1, pool.boxIs(0, 4));
+        CHECK.same("the other one is", 0, pool.boxIs(2, 4));
+        pool.pass(60);
+        CHECK.thrown("handIn in another month", IllegalStateException.class, pool, p -> p.handIn(0));
     }
 
     private static void tenLeasesEnd() {

@@ -2,7 +2,7 @@ import java.util.Random;
 
 /** Runs of up to 512 calls, right and wrong ones, on BoxPool and on Model: each answer must be the same. */
 public final class ModelTest {
-    private static final int RUNS = 1500;
+    private static final int RUNS = 2100;
     private static final int CALLS = 512;
     private static final int METHODS = 24;
     private static final String[] NAMES = {"cost", "box", "wash", "report", "place", "count", "days", "lease", "free",
@@ -15,7 +15,14 @@ public final class ModelTest {
         {0, 6, 1, 25, 2, 2, 0, 20, 1, 20, 6, 25, 0, 0, 0, 0, 2, 2, 1, 0, 0, 8, 1, 4},
         {0, 3, 3, 6, 0, 0, 0, 2, 0, 0, 0, 2, 30, 8, 5, 15, 3, 5, 2, 1, 1, 10, 2, 1},
         {10, 15, 5, 40, 0, 1, 0, 0, 0, 0, 0, 0, 1, 1, 0, 1, 4, 2, 3, 25, 50, 3, 2, 1},
+        {2, 30, 4, 50, 1, 5, 1, 8, 0, 4, 2, 8, 5, 1, 1, 5, 12, 12, 3, 5, 10, 15, 8, 1},
+        {1, 6, 6, 25, 10, 6, 15, 12, 2, 15, 3, 6, 2, 1, 0, 2, 3, 5, 2, 2, 3, 8, 2, 8},
     };
+    /** In this theme there are as many boxes and bookings as can be. */
+    private static final int FULL = 5;
+    /** In this theme the days are the last ones. */
+    private static final int LATE = 6;
+    private static final int CALLS_TO_THE_LAST_DAYS = 24;
     private static final long REFUSED = Long.MAX_VALUE - 10;
 
     private final Random random;
@@ -53,6 +60,10 @@ public final class ModelTest {
         for (int call = 0; call < CALLS; call++) {
             int method = call < 12 && random.nextInt(2) == 0 ? 1 : method();
             choose(method);
+            if (theme == LATE && call < CALLS_TO_THE_LAST_DAYS) {
+                method = METHODS - 1;
+                put(400, 0, 0, 0);
+            }
             long due = onModel(model, method);
             long got = onPool(pool, method);
             if (due != got) {
@@ -99,7 +110,7 @@ public final class ModelTest {
     }
 
     private int box() {
-        return from(0, theme == 1 ? 3 : theme == 4 ? 20 : 9);
+        return from(0, theme == 1 ? 3 : theme == 4 ? 20 : theme == FULL ? 39 : 9);
     }
 
     private int day() {
@@ -137,12 +148,12 @@ public final class ModelTest {
             case 14 -> put(random.nextInt(2) == 0 ? from(0, 9999) : from(100, 900), 0, 0, 0);
             case 15 -> put(box(), 0, 0, 0);
             case 16 -> put(port(), theme == 4 ? from(0, 1) : from(0, 2), random.nextInt(3) == 0 ? from(1, 9) : from(1, 2), 0);
-            case 18 -> put(from(0, theme == 4 ? 12 : 6), 0, 0, 0);
+            case 18 -> put(from(0, theme == 4 ? 12 : theme == FULL ? 19 : 6), 0, 0, 0);
             case 19 -> put(from(0, 2), 0, 0, 0);
             case 20 -> put(theme == 4 ? from(0, 1) : from(0, 2), from(0, 5), 0, 0);
             case 21 -> put(box(), from(0, 7), 0, 0);
-            case 22 -> put(from(0, 8), 0, 0, 0);
-            case 23 -> put(random.nextInt(8) == 0 ? from(1, 400) : from(1, 8), 0, 0, 0);
+            case 22 -> put(from(0, theme == FULL ? 19 : 8), 0, 0, 0);
+            case 23 -> put(random.nextInt(8) == 0 ? from(1, 400) : from(1, theme == LATE ? 30 : 8), 0, 0, 0);
             default -> put(0, 0, 0, 0);
         }
     }

@@ -4,10 +4,12 @@ public final class PortsAndBoxesTest {
 
     public static void main(String[] args) {
         newObject();
+        newObjectBesideAnother();
         costs();
         costsRefused();
         boxes();
         boxesRefused();
+        fortyBoxes();
         washes();
         washesRefused();
         passes();
@@ -42,6 +44,28 @@ public final class PortsAndBoxesTest {
         CHECK.same("first day is 0", 1, pool.pass(1));
     }
 
+    /** "No boxes and bookings", nor anything else that was told of another object. */
+    private static void newObjectBesideAnother() {
+        for (Probe probe : Probe.values()) {
+            String first = probe.of(new BoxPool());
+            BoxPool used = new BoxPool();
+            used.box(0, 0, 50);
+            used.report(0, 0, BoxPool.IN, 1);
+            used.lease(0, 0, 9);
+            used.damage(0, 0, 9);
+            used.book(1, 1, 1);
+            used.cost(0, 1, 7);
+            used.quota(0, 1, 7);
+            used.standard(0, 7);
+            used.limit(7);
+            used.free(7);
+            used.handIn(0);
+            used.pass(7);
+            CHECK.same("a new one, asked " + probe, first, probe.of(new BoxPool()));
+        }
+        newObject();
+    }
+
     private static void costs() {
         BoxPool pool = new BoxPool();
         for (int from = 0; from < 6; from++) {
@@ -65,7 +89,10 @@ public final class PortsAndBoxesTest {
         CHECK.noSuch("cost to -1", ahead, p -> p.cost(0, -1, 1));
         CHECK.noSuch("cost of no port comes ahead of the same", ahead, p -> p.cost(6, 6, 1));
         CHECK.noSuch("cost of no port comes ahead of range", ahead, p -> p.cost(0, Integer.MIN_VALUE, -1));
+        CHECK.noSuch("cost of no port -1 comes ahead of the same", ahead, p -> p.cost(-1, -1, 1));
         CHECK.outOfRange("cost to the same", ahead, p -> p.cost(3, 3, 0));
+        CHECK.outOfRange("cost from port 0 to the same", ahead, p -> p.cost(0, 0, 9999));
+        CHECK.outOfRange("cost from port 5 to the same, out of range too", ahead, p -> p.cost(5, 5, 10000));
         CHECK.outOfRange("cost -1", ahead, p -> p.cost(0, 1, -1));
         CHECK.outOfRange("cost 10000", ahead, p -> p.cost(0, 1, 10000));
     }
@@ -117,6 +144,45 @@ public final class PortsAndBoxesTest {
         CHECK.notNow("box 41", full, p -> p.box(0, -1, 0));
         CHECK.noSuch("box 41 of no lessor", full, p -> p.box(0, 3, 0));
         CHECK.outOfRange("box 41 of no kind", full, p -> p.box(3, 0, 0));
+    }
+
+    /** "Boxes are numbered from 0, at most 40": the last one is as good as the first, and there is none behind it. */
+    private static void fortyBoxes() {
+        BoxPool pool = new BoxPool();
+        for (int number = 0; number < 40; number++) {
+            pool.box(number / 39, 2, 50);
+        }
+        CHECK.same("report of box 39", 0, pool.report(39, 0, BoxPool.IN, 5));
+        CHECK.same("place of box 39", 5, pool.place(39, 0));
+        CHECK.same("count of box 39", 1, pool.count(5, 1, 0));
+        CHECK.same("days of box 39", 401, pool.days(39, 0, 400, 5));
+        pool.lease(39, 0, 9);
+        CHECK.same("payer of box 39", BoxPool.LINE, pool.payer(39, 9));
+        CHECK.same("damage of box 39", 50, pool.damage(39, 0, 5));
+        CHECK.same("mend of box 39", 50, pool.mend(39));
+        pool.book(4, 1, 1);
+        CHECK.same("box 39 is brought", 39, pool.brings(1, 0));
+        pool.book(5, 1, 1);
+        CHECK.same("box 39 is given", 1, pool.serve());
+        CHECK.same("box 39 is given to it", 1, pool.boxIs(39, 4));
+        CHECK.same("box 39 was given", 1, pool.end(1));
+        CHECK.same("wash of box 39", true, pool.wash(39, 50));
+        CHECK.same("handIn of box 39", 1, pool.handIn(39));
+        Check.Use crowded = p -> {
+            for (int i = 0; i < 40; i++) {
+                p.box(0, 0, 50);
+            }
+        };
+        CHECK.noSuch("wash of box 40", crowded, p -> p.wash(40, 50));
+        CHECK.noSuch("report of box 40", crowded, p -> p.report(40, 0, BoxPool.IN, 0));
+        CHECK.noSuch("place of box 40", crowded, p -> p.place(40, 0));
+        CHECK.noSuch("days of box 40", crowded, p -> p.days(40, 0, 0, 0));
+        CHECK.noSuch("lease of box 40", crowded, p -> p.lease(40, 0, 0));
+        CHECK.noSuch("payer of box 40", crowded, p -> p.payer(40, 0));
+        CHECK.noSuch("handIn of box 40", crowded, p -> p.handIn(40));
+        CHECK.noSuch("damage of box 40", crowded, p -> p.damage(40, 0, 5));
+        CHECK.noSuch("mend of box 40", crowded, p -> p.mend(40));
+        CHECK.noSuch("boxIs of box 40", crowded, p -> p.boxIs(40, 0));
     }
 
     private static void washes() {

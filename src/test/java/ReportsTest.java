@@ -6,15 +6,19 @@ public final class ReportsTest {
 
     public static void main(String[] args) {
         fits();
+        leavesThatPortOnly();
         lateReports();
         sameDay();
         toldTwice();
         full();
+        thirtyWithoutThoseToldTwice();
         reportsRefused();
         places();
         counts();
+        countsOfGone();
         countsRefused();
         days();
+        daysAtEachPlace();
         daysRefused();
         CHECK.finish();
     }
@@ -67,6 +71,22 @@ public final class ReportsTest {
         CHECK.same("IN of the port where it is", 1, pool.report(0, 4, IN, 5));
     }
 
+    /** "OUT and LOAD, if it is at that port": for each port that it is at, and each port that is told. */
+    private static void leavesThatPortOnly() {
+        for (int at = 0; at < 6; at++) {
+            for (int told = 0; told < 6; told++) {
+                for (int event = OUT; event <= LOAD; event++) {
+                    BoxPool pool = poolAt(1);
+                    CHECK.same("IN at " + at, 0, pool.report(0, 0, IN, at));
+                    String what = "event " + event + " at " + at + " told of " + told;
+                    CHECK.same(what, at == told ? 0 : 1, pool.report(0, 1, event, told));
+                    int behind = event == OUT ? ROAD : SHIP;
+                    CHECK.same(what + ", the place", at == told ? behind : at, pool.place(0, 1));
+                }
+            }
+        }
+    }
+
     private static void lateReports() {
         BoxPool pool = poolAt(30);
         CHECK.same("OUT of nowhere", 1, pool.report(0, 20, OUT, 1));
@@ -99,6 +119,13 @@ public final class ReportsTest {
         CHECK.same("OUT fits, IN not", ROAD, other.place(0, 5));
         CHECK.same("IN elsewhere on that day, told last", 1, other.report(0, 5, IN, 2));
         CHECK.same("there then", 2, other.place(0, 5));
+        BoxPool third = poolAt(5);
+        third.report(0, 3, IN, 1);
+        third.report(0, 5, OUT, 2);
+        CHECK.same("told last of day 3: behind the IN of that day", 1, third.report(0, 3, OUT, 1));
+        CHECK.same("one more of day 3: behind both, ahead of day 5", 0, third.report(0, 3, IN, 2));
+        CHECK.same("in on day 3", 2, third.place(0, 4));
+        CHECK.same("off on day 5", ROAD, third.place(0, 5));
     }
 
     private static void toldTwice() {
@@ -127,6 +154,22 @@ public final class ReportsTest {
         CHECK.thrown("report 31 told twice", IllegalStateException.class, pool, p -> p.report(0, 40, LAND, 0));
         CHECK.same("doubtful", 29, pool.boxIs(0, 6));
         CHECK.same("the first day decides", 5, pool.place(0, 40));
+    }
+
+    /** "Told twice ... does not count again; a box has 30 at most". */
+    private static void thirtyWithoutThoseToldTwice() {
+        BoxPool pool = poolAt(40);
+        for (int i = 0; i < 29; i++) {
+            pool.report(0, i, LAND, 0);
+            CHECK.same("told twice", -1, pool.report(0, i, LAND, 0));
+        }
+        CHECK.same("report 30", 28, pool.report(0, 29, LOAD, 0));
+        CHECK.same("it counts", SHIP, pool.place(0, 29));
+        CHECK.thrown("report 30 again", IllegalStateException.class, pool, p -> p.report(0, 29, LOAD, 0));
+        CHECK.thrown("report 31", IllegalStateException.class, pool, p -> p.report(0, 30, LAND, 0));
+        CHECK.same("what is refused does not count", SHIP, pool.place(0, 40));
+        pool.box(0, -1, 0);
+        CHECK.same("another box has room", 0, pool.report(1, 30, LAND, 0));
     }
 
     private static void reportsRefused() {
@@ -208,6 +251,29 @@ public final class ReportsTest {
         CHECK.same("a GONE one is with its kind", 2, pool.count(2, 0, 10));
     }
 
+    /** "Those that are GONE by now with them", on days ahead and behind. */
+    private static void countsOfGone() {
+        BoxPool pool = new BoxPool();
+        for (int box = 0; box < 2; box++) {
+            pool.box(box, 0, 0);
+            pool.lease(box, 0, 99);
+        }
+        pool.pass(9);
+        pool.report(0, 3, IN, 0);
+        pool.report(1, 4, LAND, 5);
+        pool.handIn(0);
+        pool.handIn(1);
+        pool.pass(9);
+        CHECK.same("GONE, ahead of its report", 0, pool.count(0, -1, 2));
+        CHECK.same("GONE, on the day of its report", 1, pool.count(0, -1, 3));
+        CHECK.same("GONE, on the day when it was handed in", 1, pool.count(0, 0, 9));
+        CHECK.same("GONE, on the last day", 1, pool.count(0, 0, 9999));
+        CHECK.same("GONE at port 5, the day ahead", 0, pool.count(5, 1, 3));
+        CHECK.same("GONE at port 5, the day", 1, pool.count(5, 1, 4));
+        CHECK.same("of another kind", 0, pool.count(5, 0, 9999));
+        CHECK.same("of all kinds", 1, pool.count(5, -1, 9999));
+    }
+
     private static void countsRefused() {
         Check.Use none = p -> { };
         CHECK.noSuch("count at port 6", none, p -> p.count(6, 0, 0));
@@ -237,6 +303,35 @@ public final class ReportsTest {
         CHECK.same("one other day", 0, pool.days(0, 4, 4, ROAD));
         CHECK.same("beyond 9999", 401, pool.days(0, 9999, 10399, 4));
         CHECK.same("some days beyond", 11, pool.days(0, 9995, 10005, 4));
+    }
+
+    /** "A port, or NOWHERE to SHIP": the first and the last port with them, and "both days" at each end. */
+    private static void daysAtEachPlace() {
+        BoxPool pool = poolAt(20);
+        pool.report(0, 3, LAND, 0);
+        pool.report(0, 6, OUT, 0);
+        pool.report(0, 8, IN, 5);
+        pool.report(0, 12, LOAD, 5);
+        int[] places = {NOWHERE, 0, ROAD, 5, SHIP};
+        int[] firstDays = {0, 3, 6, 8, 12, 10400};
+        for (int i = 0; i < places.length; i++) {
+            int first = firstDays[i];
+            int last = Math.min(firstDays[i + 1] - 1, first + 400);
+            CHECK.same("all days at " + places[i], last - first + 1, pool.days(0, first, last, places[i]));
+            CHECK.same("the first day at " + places[i], 1, pool.days(0, first, first, places[i]));
+            CHECK.same("the last day at " + places[i], 1, pool.days(0, last, last, places[i]));
+            if (first > 0) {
+                CHECK.same("the day ahead of " + places[i], 0, pool.days(0, first - 1, first - 1, places[i]));
+                CHECK.same("and the first at " + places[i], 1, pool.days(0, first - 1, first, places[i]));
+            }
+            if (last < 20) {
+                CHECK.same("the day behind " + places[i], 0, pool.days(0, last + 1, last + 1, places[i]));
+            }
+        }
+        CHECK.same("on a ship beyond 9999", 401, pool.days(0, 9999, 10399, SHIP));
+        CHECK.same("at a port where it never was", 0, pool.days(0, 0, 400, 3));
+        BoxPool untold = poolAt(0);
+        CHECK.same("nowhere beyond 9999", 400, untold.days(0, 9999, 10398, NOWHERE));
     }
 
     private static void daysRefused() {
