@@ -10,7 +10,7 @@ public final class LanguageTest {
     private static final int LONGEST_METHOD = 60;
     private static final String[] RULED_OUT = {"->", "::", "\\btry\\b", "\\bcatch\\b", "\\bfinally\\b", "\\bsynchronized\\b",
         "\\bassert\\b", "\\bpackage\\b", "\\brecord\\b", "\\bvar\\b", "\\bequals\\s*\\(", "\\bhashCode\\b", "\\btoString\\b",
-        "static\\s*\\{", "\\bThread\\b", "\\bRandom\\b", "\\bgetClass\\b"};
+        "static\\s*\\{", "\\bThread\\b", "\\bRandom\\b", "\\bgetClass\\b", "\"\\s*\\+", "\\+\\s*\""};
     private static final List<String> IMPORTS = List.of("java.util.Arrays", "java.util.ArrayList", "java.util.List");
     private static final List<String> CALLS = List.of("Math.min", "Math.max", "Arrays.fill", "System.arraycopy");
     private static final Check CHECK = new Check("LanguageTest");
